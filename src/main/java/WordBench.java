@@ -682,6 +682,7 @@ public final class WordBench {
 
     private static final class ShapeLaw extends Law {
         private final int[] told;
+        private final int tail;
         private final int[] times = new int[UNKNOWNS];
         private final int[] sizes = new int[UNKNOWNS];
         private final int[] ends = new int[UNKNOWNS];
@@ -693,6 +694,11 @@ public final class WordBench {
             for (int x : told) {
                 times[x]++;
             }
+            int from = told.length;
+            while (from > 0 && times[told[from - 1]] == 1) {
+                from--;
+            }
+            tail = from;
         }
 
         int shortest(int[] w, int n) {
@@ -719,11 +725,35 @@ public final class WordBench {
                 return;
             }
             ends[x] = end;
-            for (int size = 1; size <= end && least + (size - 1) * times[x] < best; size++) {
+            int most = mostFor(w, end, at);
+            for (int size = 1; size <= most && least + (size - 1) * times[x] < best; size++) {
                 sizes[x] = size;
                 fit(w, end - size, at - 1, least + (size - 1) * times[x]);
             }
             sizes[x] = 0;
+        }
+
+        /**
+         * How long a WORD that ends at end can be for the UNKNOWN at place at. From the tail on each UNKNOWN
+         * stands but once: with more than one letter for one of these the SPAN less its last letter would be
+         * BARRED too, but all up to there is KEPT. One that stands again must have its WORD ahead again.
+         */
+        private int mostFor(int[] w, int end, int at) {
+            if (at >= tail) {
+                return 1;
+            }
+            if (times[told[at]] == 1) {
+                return end;
+            }
+            int most = 0;
+            for (int other = end - 1; other > most; other--) {
+                int size = 0;
+                while (size < other && size < end - other && w[end - 1 - size] == w[other - 1 - size]) {
+                    size++;
+                }
+                most = size > most ? size : most;
+            }
+            return most;
         }
 
         private static boolean areSame(int[] w, int end, int other, int size) {

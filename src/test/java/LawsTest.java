@@ -116,8 +116,24 @@ public final class LawsTest {
         CHECK.due(2, "span", () -> bench.clash(1, 0, 0, 3));
         Check.fill(bench, 0, 0, 2, 1, 1, 0);
         CHECK.due(1, "kept", () -> bench.clash(1, 0, 0, 0));
+        Check.fill(bench, 0, 0, 0, 2);
+        CHECK.due(1, "its last letter alone is kept", () -> bench.clash(1, 0, 0, 0));
         Check.fill(bench, 0, 0, 2);
         CHECK.due(1, "a shorter word is kept", () -> bench.clash(1, 0, 0, 0));
+    }
+
+    private static void clashOfSixtyLetters() {
+        WordBench bench = Check.benchWithSheet();
+        bench.row(0, 0, 60);
+        bench.law(0, 0, 0);
+        Check.fill(bench, 0, 1, 1);
+        bench.law(0, 0, 1);
+        CHECK.due(60, "letters", () -> bench.clash(3, 0, 0, 1));
+        CHECK.due(60, "span", () -> bench.clash(3, 0, 0, 3));
+        bench.put(0, 0, 59, 1);
+        CHECK.due(60, "letters", () -> bench.clash(3, 0, 0, 1));
+        CHECK.due(1, "law", () -> bench.clash(3, 0, 0, 2));
+        CHECK.due(1, "kept by the other", () -> bench.clash(1, 0, 0, 0));
     }
 
     private static void shapesBarWhatComesOfThem() {
@@ -190,6 +206,7 @@ public final class LawsTest {
         countTellsThreeThings();
         lawsOfNumbersBar();
         toldWordsBarThemselvesAlone();
+        clashOfSixtyLetters();
         shapesBarWhatComesOfThem();
         theLeastLawAndItsShortestSpan();
         lawsKeepTheWordThatWasTold();

@@ -33,7 +33,12 @@ public final class MapsTest {
             tellMap(bench, "10", word);
             CHECK.due(0, "map with " + word, () -> bench.map(0, 2, 0, 0));
             CHECK.due(0, "map 1 with " + word, () -> bench.map(1, 2, 0, 0));
+            tellMap(bench, word, "10");
+            CHECK.due(0, "map with " + word + " first", () -> bench.map(0, 2, 0, 0));
         }
+        tellMap(bench, "20", "10");
+        CHECK.due(0, "a first letter beyond", () -> bench.map(0, 2, 0, 0));
+        tellMap(bench, "10");
         bench.tear(0, 1);
         CHECK.due(0, "map with a missing row", () -> bench.map(0, 2, 0, 0));
         CHECK.due(1, "the map stays as it was", () -> bench.at(0, 0, 1));
@@ -130,6 +135,8 @@ public final class MapsTest {
         mapsThatKeep(8, "0");
         mapsThatKeep(95, "20", "13", "212023", "2103");
         mapsThatKeep(6995, "2013", "1", "210302123", "0");
+        mapsThatKeep(6995, "012320103", "1", "0213", "2");
+        mapsThatKeep(905, "13", "01023012102", "03201320232", "031201323");
         fails("0", 2, "00", "1");
         fails("1", 3, "01", "11");
         fails("01", 7, "01", "10");
@@ -181,6 +188,26 @@ public final class MapsTest {
         }
     }
 
+    /** The word for x is x, x + 1, .. by eight, twenty letters: at a place its digits by twenty are added. */
+    private static void lettersFarOutOfTheWidestMap() {
+        String[] words = new String[8];
+        for (int x = 0; x < 8; x++) {
+            words[x] = "01234567012345670123456701234567".substring(x, x + 20);
+        }
+        WordBench bench = benchWithMap(words);
+        int[] places = {0, 19, 20, 399, 400, 159999, 1279999999, 1280000000, 2000000000, Integer.MAX_VALUE};
+        for (int place : places) {
+            int sum = 0;
+            for (int rest = place; rest > 0; rest /= 20) {
+                sum += rest % 20;
+            }
+            for (int a = 0; a < 8; a++) {
+                int from = a;
+                CHECK.due((a + sum) % 8, "letter at " + place, () -> bench.at(0, from, place));
+            }
+        }
+    }
+
     private static void rowsThatDoNotGrow() {
         WordBench bench = benchWithMap("01", "20", "22");
         CHECK.due(-1, "the word for 1 begins with 2", () -> bench.at(0, 1, 0));
@@ -193,8 +220,10 @@ public final class MapsTest {
         CHECK.elementRefused("map -1", () -> bench.at(-1, 0, 0));
         CHECK.elementRefused("map 1", () -> bench.at(1, 0, 0));
         CHECK.elementRefused("map 8", () -> bench.at(8, 0, 0));
-        WordBench other = benchWithMap("01", "12", "2");
-        CHECK.due(-1, "a word of one letter", () -> other.at(0, 0, 0));
+        WordBench last = benchWithMap("01", "12", "2");
+        CHECK.due(-1, "a word of one letter", () -> last.at(0, 0, 0));
+        WordBench first = benchWithMap("0", "12", "20");
+        CHECK.due(-1, "a first word of one letter", () -> first.at(0, 1, 0));
     }
 
     private static void smallerAlphabetForgetsTheOldWords() {
@@ -217,6 +246,7 @@ public final class MapsTest {
         wrongKeeps();
         lettersOfTheThueMorseRow();
         lettersOfARowOfUnevenWords();
+        lettersFarOutOfTheWidestMap();
         rowsThatDoNotGrow();
         smallerAlphabetForgetsTheOldWords();
         CHECK.end();

@@ -1,3 +1,4 @@
+import java.math.BigInteger;
 import java.util.ArrayList;
 import java.util.Arrays;
 import java.util.List;
@@ -182,7 +183,7 @@ final class Model {
         }
         int n = word.length();
         int p = leastPeriod(word);
-        int common = java.math.BigInteger.valueOf(n).gcd(java.math.BigInteger.valueOf(p)).intValue();
+        int common = BigInteger.valueOf(n).gcd(BigInteger.valueOf(p)).intValue();
         return new int[] {p, n / common, p / common, runsOf(word).size()}[what];
     }
 
@@ -474,13 +475,38 @@ final class Model {
         return failure[0] == null ? 1 : 0;
     }
 
-    /** Places up to 20,000 are enough to write the row out. */
+    private static BigInteger grownSize(String[] map, int letter, int images, BigInteger[][] known) {
+        if (known[images][letter] == null) {
+            known[images][letter] = images == 0 ? BigInteger.ONE : map[letter].chars()
+                    .mapToObj(sign -> grownSize(map, sign - '0', images - 1, known))
+                    .reduce(BigInteger.ZERO, BigInteger::add);
+        }
+        return known[images][letter];
+    }
+
+    /** The letter at a place of what a letter has become after so many images. */
+    private static int letterOf(String[] map, int letter, int images, BigInteger place, BigInteger[][] known) {
+        BigInteger rest = place;
+        for (int i = 0; images > 0; i++) {
+            int next = map[letter].charAt(i) - '0';
+            BigInteger size = grownSize(map, next, images - 1, known);
+            if (rest.compareTo(size) < 0) {
+                return letterOf(map, next, images - 1, rest, known);
+            }
+            rest = rest.subtract(size);
+        }
+        return letter;
+    }
+
     int at(int m, int letter, int place) {
         String[] map = mapOf(m);
         boolean grows = letter >= 0 && letter < map.length && map[letter].startsWith(Integer.toString(letter))
                 && Arrays.stream(map).allMatch(word -> word.length() > 1);
         if (!grows || place < 0) {
             return -1;
+        }
+        if (place > 20000) {
+            return letterOf(map, letter, 40, BigInteger.valueOf(place), new BigInteger[41][map.length]);
         }
         String row = Integer.toString(letter);
         while (row.length() <= place) {

@@ -155,7 +155,7 @@ public final class ModelTest {
         ask("letter", sheet, 0, upTo(2));
         ask("count", 2);
         for (int i = 0; i < 6; i++) {
-            ask("at", about(7), about(alphabet - 1), random.nextInt(20000) - 20);
+            ask("at", i < 4 ? m : about(7), about(alphabet - 1), random.nextInt() >>> upTo(31));
         }
     }
 

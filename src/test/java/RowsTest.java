@@ -65,6 +65,8 @@ public final class RowsTest {
             CHECK.holds(bench, sheet, 0, 0, 3);
             CHECK.due(1, "put of a number below 0", () -> bench.put(sheet, 0, 1, less));
             CHECK.due(-1, "word with a number below 0", () -> bench.word(sheet, 0));
+            CHECK.due(1, "put of -1", () -> bench.put(sheet, 0, 1, -1));
+            CHECK.due(-1, "word with -1", () -> bench.word(sheet, 0));
         }
         CHECK.due(1, "put of more than a byte into shorts", () -> bench.put(1, 0, 1, 259));
         CHECK.due(-1, "word of shorts", () -> bench.word(1, 0));

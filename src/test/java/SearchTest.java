@@ -129,7 +129,8 @@ public final class SearchTest {
         Check.fill(bench, 0, 1, 0, 3);
         Check.fill(bench, 0, 2, 0, 1, 0, 1);
         Check.fill(bench, 0, 3, 8);
-        for (int k = 1; k < 4; k++) {
+        Check.fill(bench, 0, 4, 3, 0);
+        for (int k = 1; k < 5; k++) {
             int row = k;
             CHECK.due(-1, "no rank for row " + k, () -> bench.rank(1, 3, 0, row));
         }
@@ -151,6 +152,10 @@ public final class SearchTest {
         CHECK.due(7, "turned, three letters", () -> bench.longest(2, 3));
         CHECK.due(WordBench.NONE, "squares, three letters", () -> bench.longest(1, 3));
         CHECK.due(WordBench.NONE, "all, one letter", () -> bench.longest(0, 1));
+        looks(bench, 61);
+        bench.row(0, 1, 60);
+        bench.law(0, 0, 1);
+        CHECK.due(59, "one letter but not sixty times", () -> bench.longest(16, 1));
         looks(bench, 61);
         CHECK.due(0, "every letter barred", () -> bench.longest(8, 8));
         looks(bench, 90);
