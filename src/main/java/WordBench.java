@@ -386,17 +386,34 @@ public final class WordBench {
     }
 
     private static Law lawOfNumbers(int kind, int a, int b) {
-        if (kind == KIND_POWER || kind == KIND_ABOVE) {
-            boolean above = kind == KIND_ABOVE;
-            if (b < 1 || a > POWER_NUMBER_MOST || a < b || (a == b && !above)) {
-                throw new IllegalArgumentException("no such power");
-            }
-            return new PowerLaw(a, b, above);
-        }
-        if (a < 0 || a > (kind == KIND_NEAR ? NEAR_MOST : 0) || b != 0) {
+        if (!areNumbersFor(kind, a, b)) {
             throw new IllegalArgumentException("no such numbers for this kind");
         }
-        return kind == KIND_NEAR ? new NearLaw(a) : new TurnedLaw();
+        switch (kind) {
+            case KIND_POWER:
+                return new PowerLaw(a, b, false);
+            case KIND_ABOVE:
+                return new PowerLaw(a, b, true);
+            case KIND_NEAR:
+                return new NearLaw(a);
+            default:
+                return new TurnedLaw();
+        }
+    }
+
+    private static boolean areNumbersFor(int kind, int a, int b) {
+        switch (kind) {
+            case KIND_POWER:
+                return b >= 1 && a > b && a <= POWER_NUMBER_MOST;
+            case KIND_ABOVE:
+                return b >= 1 && a >= b && a <= POWER_NUMBER_MOST;
+            case KIND_NEAR:
+                return a >= 0 && a <= NEAR_MOST && b == 0;
+            case KIND_TURNED:
+                return a == 0 && b == 0;
+            default:
+                return false;
+        }
     }
 
     private static boolean areBelow(int[] w, int n, int bound) {
@@ -488,7 +505,7 @@ public final class WordBench {
         if (n < 1 || n > w.length) {
             return NONE;
         }
-        for (int i = 0; i < laws.length; i++) {
+        for (int i = 0; i < laws.length && set >> i != 0; i++) {
             if ((set >> i & 1) != 0 && laws[i] != null && laws[i].shortest(w, n) > 0) {
                 return i;
             }
@@ -619,7 +636,7 @@ public final class WordBench {
 
         /** A longer PERIOD needs a longer SPAN, so the first SPAN that is long enough is the shortest. */
         int shortest(int[] w, int n) {
-            for (int p = 1; p * upper <= n * lower; p++) {
+            for (int p = 1; p < n && p * upper <= n * lower; p++) {
                 for (int size = p + 1; size <= n && w[n - size] == w[n - size + p]; size++) {
                     int over = size * lower - p * upper;
                     if (over > 0 || (over == 0 && !above)) {
@@ -676,7 +693,7 @@ public final class WordBench {
         }
 
         private static long weight(int letter) {
-            return 1L << 8 * letter;
+            return 1L << (8 * letter);
         }
     }
 
@@ -948,8 +965,8 @@ public final class WordBench {
         private int alphabet;
         private final int[] sizes = new int[LETTERS];
         private final int[] told = new int[LETTERS * MAP_WORD_MOST];
-        // How many letters each LETTER has become after so many images, PLACES at the most.
-        private final long[] grownSizes = new long[(LEVELS + 1) * LETTERS];
+        // How many letters each LETTER has become after 0, 1, .. images, PLACES at the most.
+        private final long[] grownSizes = new long[LEVELS * LETTERS];
 
         void tell(int x, int[] w, int n) {
             System.arraycopy(w, 0, told, x * MAP_WORD_MOST, n);
@@ -962,7 +979,7 @@ public final class WordBench {
 
         void measure() {
             Arrays.fill(grownSizes, 0, LETTERS, 1L);
-            for (int level = 1; level <= LEVELS; level++) {
+            for (int level = 1; level < LEVELS; level++) {
                 for (int x = 0; x < alphabet; x++) {
                     grownSizes[level * LETTERS + x] = Math.min(PLACES, imageSize(level - 1, x));
                 }
@@ -1014,6 +1031,7 @@ public final class WordBench {
             return true;
         }
 
+        /** Goes from the last image but one down to the letter itself; each time into the part that has the place. */
         int letterFarOut(int a, int place) {
             int x = a;
             long rest = place;

@@ -7,6 +7,8 @@ import java.util.Random;
 public final class ModelTest {
     private static final Check CHECK = new Check("ModelTest");
     private static final int RUNS = 250;
+    private static final int[] FAR_OUT = {Integer.MIN_VALUE, Integer.MIN_VALUE + 1, -1000, 256, 65536, 1 << 30,
+        Integer.MAX_VALUE - 1, Integer.MAX_VALUE};
     // What an object answers after 512 calls is free, and the last turn may take 140 more than these.
     private static final int CALLS = 370;
 
@@ -47,8 +49,11 @@ public final class ModelTest {
         return random.nextInt(most + 1);
     }
 
-    /** Mostly 0 to last, now and then one beyond. */
+    /** Mostly 0 to last, now and then one beyond, or far out. */
     private int about(int last) {
+        if (random.nextInt(150) == 0) {
+            return FAR_OUT[random.nextInt(FAR_OUT.length)];
+        }
         return random.nextInt(25) == 0 ? random.nextInt(last + 5) - 2 : upTo(last);
     }
 
