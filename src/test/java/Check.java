@@ -6,11 +6,19 @@ final class Check {
     }
 
     private final String test;
-    private int calls;
+    private String sentence = "";
+    private int sentences;
+    private int answers;
     private int wrong;
 
     Check(String test) {
         this.test = test;
+    }
+
+    /** The words of the document that the answers from here on are held against. */
+    void says(String where, String words) {
+        sentence = where + " [" + words + "]: ";
+        sentences++;
     }
 
     /** The answer as a text: a number, or throws. and the name of what the call throws. */
@@ -23,10 +31,10 @@ final class Check {
     }
 
     void alike(String what, String got, String want) {
-        calls++;
+        answers++;
         if (!got.equals(want)) {
             wrong++;
-            System.out.println(what + " answered " + got + ", due is " + want);
+            System.out.println(sentence + what + " answered " + got + ", due is " + want);
         }
     }
 
@@ -42,6 +50,10 @@ final class Check {
         refused(IllegalArgumentException.class, what, call);
     }
 
+    void stateRefused(String what, Call call) {
+        refused(IllegalStateException.class, what, call);
+    }
+
     void placeRefused(String what, Call call) {
         refused(IndexOutOfBoundsException.class, what, call);
     }
@@ -51,12 +63,16 @@ final class Check {
     }
 
     /** Whether the WORD of a ROW has these letters and no more. */
-    void holds(WordBench bench, int sheet, int k, int... letters) {
-        due(letters.length, "letters of row " + k + " of sheet " + sheet, () -> bench.word(sheet, k));
-        for (int i = 0; i < letters.length; i++) {
+    void holds(WordBench bench, int sheet, int k, String letters) {
+        due(letters.length(), "letters of row " + k + " of sheet " + sheet, () -> bench.word(sheet, k));
+        for (int i = 0; i < letters.length(); i++) {
             int place = i;
-            due(letters[i], "letter " + i + " of row " + k, () -> bench.letter(sheet, k, place));
+            due(letters.charAt(i) - '0', "letter " + i + " of row " + k, () -> bench.letter(sheet, k, place));
         }
+    }
+
+    void looks(WordBench bench, int want) {
+        due(want, "looks", () -> bench.count(2));
     }
 
     static void fill(WordBench bench, int sheet, int k, int... numbers) {
@@ -64,6 +80,11 @@ final class Check {
         for (int i = 0; i < numbers.length; i++) {
             bench.put(sheet, k, i, numbers[i]);
         }
+    }
+
+    /** The same for letters, a digit for each. */
+    static void fill(WordBench bench, int sheet, int k, String letters) {
+        fill(bench, sheet, k, letters.chars().map(sign -> sign - '0').toArray());
     }
 
     /** A bench with one SHEET of ints. */
@@ -74,8 +95,8 @@ final class Check {
     }
 
     void end() {
-        System.out.println(test + ": " + calls + " answers, " + wrong + " wrong");
-        if (wrong != 0 || calls == 0) {
+        System.out.println(test + ": " + answers + " answers by " + sentences + " sentences, " + wrong + " wrong");
+        if (wrong != 0 || answers == 0) {
             System.exit(1);
         }
     }
