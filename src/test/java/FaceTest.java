@@ -53,6 +53,15 @@ public final class FaceTest {
                 .collect(Collectors.joining("; "));
     }
 
+    /** The language's rule 1: these would hide behind the face. */
+    private static String privateMethodsNamedLikePublicOnes() {
+        List<String> names = Arrays.stream(WordBench.class.getMethods()).map(Method::getName).toList();
+        return Stream.concat(Stream.of(WordBench.class), Arrays.stream(WordBench.class.getDeclaredClasses()))
+                .flatMap(part -> Arrays.stream(part.getDeclaredMethods()))
+                .filter(method -> Modifier.isPrivate(method.getModifiers()) && names.contains(method.getName()))
+                .map(Method::getName).collect(Collectors.joining("; "));
+    }
+
     public static void main(String[] args) {
         Check check = new Check("FaceTest");
         check.alike("the methods", sorted(shown()), sorted(FACE));
@@ -60,6 +69,7 @@ public final class FaceTest {
         check.alike("the class", Modifier.toString(WordBench.class.getModifiers()), "public final");
         check.alike("the constructors", Arrays.toString(WordBench.class.getDeclaredConstructors()),
                 "[public WordBench()]");
+        check.alike("private methods with a public name", privateMethodsNamedLikePublicOnes(), "");
         check.due(-1, "NONE", () -> WordBench.NONE);
         check.end();
     }

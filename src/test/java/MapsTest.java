@@ -62,22 +62,18 @@ public final class MapsTest {
 
     private static void mapsHaveLettersBelowTheAlphabet() {
         CHECK.says("Terms 4", "letters below the ALPHABET");
-        WordBench bench = benchWithMap("1", "7", "7", "7", "7", "7", "7", "01234567");
-        imageIs(bench, 0, 7, "01234567");
+        imageIs(benchWithMap("1", "7", "7", "7", "7", "7", "7", "01234567"), 0, 7, "01234567");
         for (int alphabet : new int[] {1, 2, 3, 4, 5, 6, 7}) {
-            String last = "0".repeat(19) + (alphabet - 1);
-            Check.fill(bench, 0, alphabet - 1, last);
-            for (int x = 0; x < alphabet - 1; x++) {
-                bench.row(0, x, 1);
-            }
-            CHECK.due(1, "map over " + alphabet, () -> bench.map(1, alphabet, 0, 0));
-            imageIs(bench, 1, alphabet - 1, last);
+            String[] words = new String[alphabet];
+            Arrays.fill(words, "0");
+            words[alphabet - 1] = "0".repeat(19) + (alphabet - 1);
+            WordBench bench = benchWithMap(words);
             bench.put(0, alphabet - 1, 19, alphabet);
-            CHECK.due(0, "its last letter is beyond", () -> bench.map(1, alphabet, 0, 0));
-            bench.row(0, alphabet - 1, 20);
+            CHECK.due(0, "its last letter is beyond", () -> bench.map(0, alphabet, 0, 0));
+            bench.put(0, alphabet - 1, 19, 0);
             bench.put(0, 0, 0, alphabet);
-            CHECK.due(0, "its first letter is beyond", () -> bench.map(1, alphabet, 0, 0));
-            imageIs(bench, 1, alphabet - 1, last);
+            CHECK.due(0, "its first letter is beyond", () -> bench.map(0, alphabet, 0, 0));
+            imageIs(bench, 0, alphabet - 1, words[alphabet - 1]);
         }
     }
 
@@ -211,14 +207,22 @@ public final class MapsTest {
         Check.fill(bench, 0, 5, "0".repeat(60));
         CHECK.due(60, "an image of 60", () -> bench.image(0, 0, 5, 1));
         CHECK.holds(bench, 1, 0, "1".repeat(60));
-        for (String word : new String[] {"1110", "0".repeat(59) + "2", "2".repeat(31), "1".repeat(18), "1".repeat(19),
-            "1".repeat(60)}) {
+        bench.put(0, 5, 59, 2);
+        CHECK.due(-2, "an image of 61", () -> bench.image(0, 0, 5, 1));
+        CHECK.holds(bench, 1, 0, "1".repeat(60));
+        bench.put(0, 5, 0, 3);
+        CHECK.due(-1, "a letter beyond comes first", () -> bench.image(0, 0, 5, 1));
+    }
+
+    private static void imageOfFarMoreThanSixty() {
+        CHECK.says("Promise 18", "-2: the IMAGE has more than 60, up to 1200");
+        WordBench bench = benchWithMap("1", TWENTY, "22");
+        bench.row(1, 0, 70);
+        for (String word : new String[] {"1110", "2".repeat(31), "1".repeat(18), "1".repeat(19), "1".repeat(60)}) {
             Check.fill(bench, 0, 5, word);
             CHECK.due(-2, "image of " + word, () -> bench.image(0, 0, 5, 1));
         }
-        CHECK.holds(bench, 1, 0, "1".repeat(60));
-        Check.fill(bench, 0, 5, "1".repeat(59) + "3");
-        CHECK.due(-1, "a letter beyond comes first", () -> bench.image(0, 0, 5, 1));
+        CHECK.due(70, "the row stays", () -> bench.tear(1, 0));
     }
 
     private static void mapsThatAreNotMade() {
@@ -345,6 +349,22 @@ public final class MapsTest {
         CHECK.due(0, "the map stays", () -> bench.keeps(0, 1));
     }
 
+    private static void looksOfEarlierCallsDoNotCount() {
+        CHECK.says("Promise 9", "LOOKS of the latest call that SEARCHED");
+        WordBench bench = benchWithMap("01", "10");
+        bench.many(0, 2, 14);
+        CHECK.due(0, "keeps behind what was spent", () -> bench.keeps(0, 1));
+        CHECK.looks(bench, 7);
+        CHECK.due(0, "keeps again", () -> bench.keeps(0, 1));
+        CHECK.looks(bench, 7);
+        bench.image(0, 0, 0, 1);
+        bench.at(0, 0, 1);
+        bench.map(0, 2, 0, 0);
+        CHECK.looks(bench, 7);
+        CHECK.due(2, "many behind it", () -> bench.many(0, 2, 1));
+        CHECK.looks(bench, 3);
+    }
+
     private static void keepsInNoSheet() {
         CHECK.says("Promise 19", "throws NoSuchElementException, IndexOutOfBoundsException");
         WordBench bench = benchWithMap("0");
@@ -466,6 +486,7 @@ public final class MapsTest {
         imageOfTheEmptyWord();
         imageOfNoWord();
         imageOfMoreThanSixty();
+        imageOfFarMoreThanSixty();
         mapsThatAreNotMade();
         imagesInNoRow();
     }
@@ -477,6 +498,7 @@ public final class MapsTest {
         failuresOfTheMostLetters();
         looksOfAMapCountTogether();
         keepsTellsWhetherItKeeps();
+        looksOfEarlierCallsDoNotCount();
         keepsInNoSheet();
     }
 

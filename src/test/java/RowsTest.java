@@ -146,6 +146,17 @@ public final class RowsTest {
         }
     }
 
+    private static void anObjectHas512Calls() {
+        CHECK.says("What it is", "An object is used for at most 512 calls after it has been made");
+        WordBench bench = Check.benchWithSheet();
+        for (int call = 2; call < 510; call++) {
+            bench.row(0, call % 10, call % 82);
+        }
+        CHECK.due(60, "call 510", () -> bench.row(0, 9, 60));
+        CHECK.due(1, "call 511", () -> bench.put(0, 9, 59, 7));
+        CHECK.due(7, "call 512", () -> bench.letter(0, 9, 59));
+    }
+
     private static void sheetTellsItsNumber() {
         CHECK.says("Promise 2", "A SHEET of a width: its number.");
         WordBench bench = new WordBench();
@@ -355,6 +366,7 @@ public final class RowsTest {
     public static void main(String[] args) {
         terms();
         newObjectHasNothing();
+        anObjectHas512Calls();
         sheetTellsItsNumber();
         otherWidthsAreRefused();
         moreThanSixteenAreRefused();

@@ -111,14 +111,14 @@ public final class ShapesTest {
     }
 
     private static void ziminsRowIsOfAsManyUnknowns() {
-        CHECK.says("Terms 5", "k how many UNKNOWNS it has");
-        // Each of these would stand in the row of one UNKNOWN more.
-        for (String told : new String[] {"00", "0101", "0110"}) {
-            avoidable(told);
-        }
+        CHECK.says("Terms 5", "of one UNKNOWN 0; of k: that of k - 1, k - 1, that of k - 1 again; k how many UNKNOWNS it "
+                + "has");
         unavoidable("2", 4);
-        unavoidable("121", 2, 4);
-        unavoidable("010201", 1, 2, 4);
+        unavoidable("101", 2, 1);
+        unavoidable("202", 4, 1);
+        unavoidable("01020", 1, 2, 4);
+        unavoidable("102010", 1, 2, 4);
+        unavoidable("121012", 2, 4, 1);
     }
 
     private static void setsOfTheSteps() {
