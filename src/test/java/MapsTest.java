@@ -252,12 +252,21 @@ public final class MapsTest {
         }
     }
 
-    private static void keeps(int looks, String... words) {
+    /** keeps() answers so, takes so many LOOKS, and brings no FAILURE. */
+    private static void bringsNone(int answer, int looks, String... words) {
         WordBench bench = benchWithMap(words);
         bench.row(1, 0, 70);
-        CHECK.due(1, Arrays.toString(words) + " keeps", () -> bench.keeps(0, 1));
+        CHECK.due(answer, Arrays.toString(words) + " keeps", () -> bench.keeps(0, 1));
         CHECK.looks(bench, looks);
         CHECK.due(70, "the row stays", () -> bench.tear(1, 0));
+    }
+
+    private static void keeps(int looks, String... words) {
+        bringsNone(1, looks, words);
+    }
+
+    private static void spends(String... words) {
+        bringsNone(-2, 20000, words);
     }
 
     private static void fails(String failure, int looks, String... words) {
@@ -269,14 +278,6 @@ public final class MapsTest {
         CHECK.holds(bench, 1, 0, failure);
         CHECK.due(failure.length(), "how many it has", () -> bench.tear(1, 0));
         CHECK.holds(bench, 1, 1, "7");
-    }
-
-    private static void spends(String... words) {
-        WordBench bench = benchWithMap(words);
-        bench.row(1, 0, 70);
-        CHECK.due(-2, Arrays.toString(words) + " keeps", () -> bench.keeps(0, 1));
-        CHECK.looks(bench, 20000);
-        CHECK.due(70, "the row stays", () -> bench.tear(1, 0));
     }
 
     /** The LOOKS tell up to how many letters was SEARCHED: over four letters 95 up to 3, 308 to 4, 905 to 5 .. */
