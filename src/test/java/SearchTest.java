@@ -108,6 +108,21 @@ public final class SearchTest {
         CHECK.looks(bench, 1075);
     }
 
+    private static void aShapeOfAnyNumberMakesItTen() {
+        CHECK.says("Terms 3", "ten, if a SHAPE is in the set, whichever its number");
+        for (int number = 0; number < 12; number++) {
+            WordBench bench = Check.benchWithSheet();
+            for (int law = 0; law < 12; law++) {
+                tellLaw(bench, law == number ? 5 : 0, "01");
+            }
+            int[][] looks = {{1 << number, 10}, {4095, 10}, {4095 - (1 << number), 1}};
+            for (int[] of : looks) {
+                CHECK.due(1, "many by " + of[0], () -> bench.many(of[0], 8, 0));
+                CHECK.looks(bench, of[1]);
+            }
+        }
+    }
+
     private static void twentyThousandLooksAreNotSpent() {
         CHECK.says("Terms 3", "A call may take 20,000 LOOKS");
         WordBench bench = benchOfTwentyThousandLooks();
@@ -454,6 +469,7 @@ public final class SearchTest {
         lettersArePutBehindInOrder();
         eachWordThatIsMadeIsALook();
         aLookIsTenWithAShape();
+        aShapeOfAnyNumberMakesItTen();
         twentyThousandLooksAreNotSpent();
         oneLookMoreIsSpent();
         twoThousandWordsWithAShape();
